@@ -824,10 +824,11 @@ public final class TelecontrolPost {
         }
     }
 
+    /** One that something is before has not begun; one that has only its end to tell does not go on. */
     private boolean interrogationGoesOn(Line line) {
         for (int i = 0; i < line.answers.many; i++) {
             Answer answer = line.answers.get(i);
-            if (answer.interrogates && (i > 0 || !answer.begun || nextToTell(answer) != null)) {
+            if (answer.interrogates && (!answer.begun || nextToTell(answer) != null)) {
                 return true;
             }
         }
@@ -1484,7 +1485,6 @@ public final class TelecontrolPost {
 
         void setUp(int address, int causeSize, int stationSize, int objectSize) {
             clearRows();
-            kept.clear();
             state = NOT_RESET;
             this.address = address;
             this.causeSize = causeSize;

@@ -100,6 +100,7 @@ public final class AdvanceTest {
 
     private static void confirmingWhatCame() {
         TelecontrolPost post = withPoint();
+        post.advance(70000);
         Peer peer = Peer.started(post, 0);
         for (int i = 0; i < 12; i++) {
             post.change(0, 1, 0, true);

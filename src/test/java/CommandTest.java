@@ -262,6 +262,10 @@ public final class CommandTest {
         Check.same("the line was closed", post.done(2, true), 0);
         Check.same("nothing waits", post.look(0, 6), 0);
         Check.same("nothing to take", post.look(0, 1), 0);
+        Peer again = Peer.started(post, 0);
+        tell("after it was opened again", again, true, 45, 30, 1);
+        Check.same("its point", post.done(3, true), 0);
+        again.expect("it was not closed since", command(45, 10, 30, 1));
     }
 
     private static void doneWrongArguments() {

@@ -63,14 +63,14 @@ public final class InterrogationTest {
         peer.expect("its end", 100, 1, 10, 0, 1, 0, 0, 0, 0, 36);
         peer.expectNothing("no more");
         TelecontrolPost post = new TelecontrolPost(1);
-        post.point(10, 0, 1, false);
+        post.point(1, 0, 1, false);
         post.point(11, 1, 2, false);
         post.point(12, 0, 1, false);
         Peer other = Peer.started(post, 0);
         other.ask(100, 1, 6, 0, 1, 0, 0, 0, 0, 21);
         other.takeFrame();
         other.nextToCome++;
-        other.expect("next to each other among those of the group", 1, 2, 21, 0, 1, 0, 10, 0, 0, 0, 12, 0, 0, 0);
+        other.expect("next to each other among those of the group", 1, 2, 21, 0, 1, 0, 1, 0, 0, 0, 12, 0, 0, 0);
     }
 
     private static void counters() {
@@ -96,6 +96,12 @@ public final class InterrogationTest {
         }
         peer.ask(102, 1, 5, 0, 1, 0, 45, 0, 0);
         peer.expect("33 were begun, modulo 32", 15, 1, 5, 0, 1, 0, 45, 0, 0, 7, 0, 0, 0, 129);
+        peer.expectNothing("a read is told once");
+        for (int i = 0; i < 20; i++) {
+            peer.ask(104, 1, 6, 0, 1, 0, 0, 0, 0, 170, 85);
+            peer.expect("a test", 104, 1, 7, 0, 1, 0, 0, 0, 0, 170, 85);
+            peer.expectNothing("is answered once");
+        }
     }
 
     private static void wrongBytes() {

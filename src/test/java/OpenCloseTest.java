@@ -53,10 +53,29 @@ public final class OpenCloseTest {
         for (int what = 1; what <= 6; what++) {
             Check.same("look " + what + " of a line that is opened again", post.look(0, what), 0);
         }
+        whatCameIsForgotten();
         Peer fresh = new Peer(post, 0);
         fresh.start();
         fresh.ask(104, 1, 6, 0, 1, 0, 0, 0, 0, 170, 85);
         fresh.expect("numbers begin with 0", 104, 1, 7, 0, 1, 0, 0, 0, 0, 170, 85);
+    }
+
+    private static void whatCameIsForgotten() {
+        TelecontrolPost post = new TelecontrolPost(1);
+        post.point(5, 0, 0, false);
+        Peer peer = Peer.started(post, 0);
+        for (int i = 0; i < 12; i++) {
+            post.change(0, 1, 0, true);
+            peer.takeFrame();
+        }
+        peer.askConfirming(0, 104, 1, 6, 0, 1, 0, 0, 0, 0, 170, 85);
+        Check.same("one came that is not confirmed", post.look(0, 5), 1);
+        post.close(0);
+        Check.same("closed", post.look(0, 5), 0);
+        post.open(0);
+        Check.same("opened again", post.look(0, 5), 0);
+        post.advance(10000);
+        Check.same("nothing is confirmed", post.look(0, 1), 0);
     }
 
     private static void closeForgets() {

@@ -479,6 +479,22 @@ public final class ReceiveTest {
         }
         Check.same("996 again", post.look(0, 1), 996);
         exactlyOneThousand();
+        oneMoreThanThousand();
+    }
+
+    private static void oneMoreThanThousand() {
+        TelecontrolPost post = withPoint();
+        post.open(0);
+        Peer peer = new Peer(post, 0);
+        peer.control(67);
+        peer.control(67);
+        post.take(0);
+        for (int i = 0; i < 165; i++) {
+            peer.control(67);
+        }
+        Check.same("995 bytes", post.look(0, 1), 995);
+        peer.control(67);
+        peer.expectState("1,001 bytes may not wait", 0);
     }
 
     private static void exactlyOneThousand() {
