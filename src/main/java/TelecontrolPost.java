@@ -157,8 +157,7 @@ public final class TelecontrolPost {
         if (station < 1 || station > 2 || object < 1 || object > 3) {
             throw new IllegalArgumentException("no such size of station or address");
         }
-        // 255 of one byte means every station, so it can't be this station's own number.
-        if (station == 1 && this.station > 254) {
+        if (station == 1 && this.station > 255) {
             throw new IllegalArgumentException("the station's number does not fit");
         }
         serialLine.setUp(address, cause, station, object);
@@ -1380,7 +1379,6 @@ public final class TelecontrolPost {
             super(index, MOST_WAITING);
         }
 
-        @Override
         boolean mayBecomeFrame() {
             if (heard.length == 1) {
                 return heard.at(0) == FRAME;
@@ -1388,9 +1386,8 @@ public final class TelecontrolPost {
             return heard.length != 2 || heard.at(1) >= 4 && heard.at(1) <= 253;
         }
 
-        @Override
         boolean isWholeFrame() {
-            return heard.length > 2 && heard.length == heard.at(1) + 2;
+            return heard.length == heard.at(1) + 2;
         }
 
         boolean isInformation() {
@@ -1506,7 +1503,6 @@ public final class TelecontrolPost {
             return isShort() ? 5 : heard.at(1) + 6;
         }
 
-        @Override
         boolean mayBecomeFrame() {
             int place = heard.length;
             int b = heard.at(place - 1);
@@ -1523,9 +1519,8 @@ public final class TelecontrolPost {
             return place < end || b == FRAME_END;
         }
 
-        @Override
         boolean isWholeFrame() {
-            return heard.length > 4 && heard.length == frameLength();
+            return heard.length == frameLength();
         }
 
         private int control() {

@@ -242,6 +242,12 @@ public final class SerialLineTest {
     }
 
     private static void waitingBytesAreGivenUp() {
+        TelecontrolPost fresh = station();
+        fresh.serial(5, 1, 1, 1);
+        Master first = new Master(fresh, 5);
+        first.shortFrame(64);
+        first.shortFrame(64 + 16 + 10);
+        first.expectShort("a repeated frame without an answer to repeat leaves what waits", 0);
         TelecontrolPost post = station();
         Master master = reset(post);
         master.shortFrame(64 + 9);

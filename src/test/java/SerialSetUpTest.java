@@ -42,9 +42,9 @@ public final class SerialSetUpTest {
             post.serial(1, 1, 2, 1);
             Check.same("in two bytes", post.look(3, 0), 1);
         }
-        TelecontrolPost post = new TelecontrolPost(254);
+        TelecontrolPost post = new TelecontrolPost(255);
         post.serial(1, 1, 1, 1);
-        Check.same("254 in one byte", post.look(3, 0), 1);
+        Check.same("255 in one byte", post.look(3, 0), 1);
         TelecontrolPost other = new TelecontrolPost(65535);
         other.serial(1, 1, 1, 1);
         Check.same("station 1 for a wrong one", other.look(3, 0), 1);
