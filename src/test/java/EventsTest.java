@@ -65,11 +65,26 @@ public final class EventsTest {
         counts("48", post, 48, 12, 0);
         post.change(0, 48, 0, true);
         counts("the oldest that was not sent is lost", post, 48, 12, 1);
+        fullQueueOfAClosedLine();
         peer.confirm();
         for (int i = 13; i < 25; i++) {
             peer.expect("the 13th is lost", event(i));
         }
         counts("twelve are confirmed, twelve more sent", post, 36, 12, 1);
+    }
+
+    private static void fullQueueOfAClosedLine() {
+        TelecontrolPost post = withPoint();
+        Peer.started(post, 0);
+        for (int i = 0; i < 50; i++) {
+            post.change(0, i, 0, true);
+        }
+        Check.isTrue("some are sent", post.count(1) > 0);
+        post.close(0);
+        counts("all count as not sent", post, 48, 0, 2);
+        post.change(0, 50, 0, true);
+        counts("the oldest of all is lost", post, 48, 0, 3);
+        Peer.started(post, 1).expect("so the second is first", event(1));
     }
 
     private static void answersGoFirst() {

@@ -9,6 +9,7 @@ public final class InterrogationTest {
         asItIsWhenSent();
         whileOneGoesOn();
         nothingToTell();
+        ofAClosedLine();
         pointsThatCome();
         testsOriginsAndEachStation();
         Check.end();
@@ -253,6 +254,18 @@ public final class InterrogationTest {
         peer.expectControl("started again", 11);
         peer.nextToCome = 12;
         peer.expect("it goes on", 100, 1, 7, 0, 1, 0, 0, 0, 0, 20);
+    }
+
+    private static void ofAClosedLine() {
+        TelecontrolPost post = new TelecontrolPost(1);
+        Peer peer = Peer.started(post, 0);
+        fillWindow(post, peer);
+        peer.askConfirming(0, 100, 1, 6, 0, 1, 0, 0, 0, 0, 20);
+        post.close(0);
+        Peer again = Peer.started(post, 0);
+        again.ask(100, 1, 6, 0, 1, 0, 0, 0, 0, 21);
+        again.expect("what a closed line had does not go on", 100, 1, 7, 0, 1, 0, 0, 0, 0, 21);
+        again.expect("its end", 100, 1, 10, 0, 1, 0, 0, 0, 0, 21);
     }
 
     private static void pointsThatCome() {
