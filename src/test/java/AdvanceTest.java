@@ -11,6 +11,8 @@ public final class AdvanceTest {
         orderOnALine();
         timersOfStoppedLines();
         closedByTooManyBytes();
+        confirmingClosesByTooManyBytes();
+        allThreeAreClosed();
         Check.end();
     }
 
@@ -224,5 +226,34 @@ public final class AdvanceTest {
         Check.same("the test is one too many", post.advance(20000), 1);
         peer.expectState("closed", 0);
         Check.same("what waited is gone", post.look(0, 1), 0);
+    }
+
+    private static void confirmingClosesByTooManyBytes() {
+        TelecontrolPost post = withPoint();
+        Peer peer = Peer.started(post, 0);
+        for (int i = 0; i < 43; i++) {
+            peer.control(67);
+        }
+        peer.askConfirming(0, 104, 1, 6, 0, 1, 0, 0, 0, 0, 170, 85);
+        for (int i = 43; i < 166; i++) {
+            peer.control(67);
+        }
+        Check.same("996 bytes wait", post.look(0, 1), 996);
+        Check.same("one came", post.look(0, 5), 1);
+        Check.same("not yet", post.advance(9999), 0);
+        Check.same("the S frame is one too many", post.advance(1), 1);
+        peer.expectState("closed", 0);
+    }
+
+    private static void allThreeAreClosed() {
+        TelecontrolPost post = withPoint();
+        post.serial(1, 1, 1, 1);
+        post.open(0);
+        post.open(1);
+        post.open(2);
+        Check.same("tests go", post.advance(100000), 0);
+        Check.same("all three are late", post.advance(100000), 3);
+        Check.same("line 3 has no timers", post.look(3, 0), 1);
+        Check.same("none is left", post.advance(100000), 0);
     }
 }

@@ -9,6 +9,8 @@ public final class AnswersTest {
         byDone();
         stoppedLinesKeepThem();
         serialDropsIt();
+        interrogationIsOne();
+        serialDropsInterrogations();
         Check.end();
     }
 
@@ -156,5 +158,52 @@ public final class AnswersTest {
         master.expectShort("its second was not told", 9);
         master.ask(test);
         master.expectShort("there is room again", 32);
+    }
+
+    /** From its 7 to its 10, whatever it has told in between. */
+    private static void interrogationIsOne() {
+        TelecontrolPost post = station();
+        Peer peer = waiting(post, 0);
+        peer.askConfirming(0, 100, 1, 6, 0, 1, 0, 0, 0, 0, 20);
+        for (int sent = 0; sent <= 3; sent++) {
+            Check.same("its frames that went: " + sent, post.look(0, 2), 12 + sent);
+            Check.same("answers behind so many: " + sent, post.look(0, 6), sent == 3 ? 0 : 1);
+            peer.confirm(sent + 1);
+        }
+        TelecontrolPost other = station();
+        Master master = Master.reset(other, 1, 1, 1, 1);
+        master.ask(100, 1, 6, 1, 0, 20);
+        Check.same("before its 7", other.look(3, 6), 1);
+        master.askClass(1);
+        Check.same("behind its 7", other.look(3, 6), 1);
+        master.askClass(2);
+        Check.same("behind its point", other.look(3, 6), 1);
+        master.askClass(1);
+        Check.same("behind its 10", other.look(3, 6), 0);
+    }
+
+    private static void serialDropsInterrogations() {
+        TelecontrolPost post = station();
+        Master master = Master.reset(post, 1, 1, 1, 1);
+        for (int i = 0; i < 16; i++) {
+            master.ask(104, 1, 6, 1, 0, 170, 85);
+        }
+        master.ask(101, 1, 6, 1, 0, 5);
+        master.ask(100, 1, 6, 1, 0, 20);
+        Check.same("none of them is told", post.look(3, 6), 16);
+        for (int i = 0; i < 16; i++) {
+            master.askClass(1);
+            master.expectLong("an answer before", i < 15 ? 8 + 32 : 8, 104, 1, 7, 1, 0, 170, 85);
+        }
+        master.askClass(1);
+        master.expectShort("neither 7 nor 10", 9);
+        master.askClass(2);
+        master.expectShort("nor points", 9);
+        master.ask(102, 1, 5, 1, 20);
+        master.askClass(1);
+        master.expectLong("but the counters were begun", 8, 15, 1, 5, 1, 20, 0, 0, 0, 0, 1);
+        master.ask(100, 1, 6, 1, 0, 20);
+        master.askClass(1);
+        master.expectLong("what was not told does not go on", 8, 100, 1, 7, 1, 0, 20);
     }
 }

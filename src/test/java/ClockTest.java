@@ -10,6 +10,7 @@ public final class ClockTest {
         range();
         goesOnByAdvanceAlone();
         eventTimes();
+        afterTheLastYear();
         setByProcedure();
         noTimes();
         bitsThatDoNotMatter();
@@ -106,7 +107,14 @@ public final class ClockTest {
         post.change(0, 1, 0, true);
         Peer peer = Peer.started(post, 0);
         peer.expect("the clock is not set", eventAt(timeBytes(61234, false)));
+    }
+
+    private static void afterTheLastYear() {
+        TelecontrolPost post = withPoint();
+        Peer peer = Peer.started(post, 0);
         post.clock(LAST);
+        post.change(0, 1, 0, true);
+        peer.expect("the last moment of 2099", eventAt(95, 234, 59, 23, 31 + 32 * 4, 12, 99));
         post.advance(1);
         post.change(0, 1, 0, true);
         peer.expect("the year 2100 is 0 of 100", eventAt(0, 0, 0, 0, 1 + 32 * 5, 1, 0));
@@ -164,6 +172,8 @@ public final class ClockTest {
         noTime("31 June", 0, 0, 0, 0, 31, 6, 4);
         noTime("31 September", 0, 0, 0, 0, 31, 9, 4);
         noTime("31 November", 0, 0, 0, 0, 31, 11, 4);
+        noTime("year 100", 0, 0, 0, 0, 1, 1, 100);
+        noTime("year 127", 0, 0, 0, 0, 1, 1, 127);
     }
 
     private static void bitsThatDoNotMatter() {

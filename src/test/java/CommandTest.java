@@ -16,6 +16,9 @@ public final class CommandTest {
         latestSixteen();
         olderOnesGoOn();
         operationArguments();
+        clockDoesNotMoveSelection();
+        oneAtAPointOfAllLines();
+        eightOfAllLines();
         Check.end();
     }
 
@@ -341,5 +344,59 @@ public final class CommandTest {
         for (int k : none) {
             Check.noArgument("operation " + k, () -> post.operation(k, 0));
         }
+    }
+
+    private static void clockDoesNotMoveSelection() {
+        TelecontrolPost post = station();
+        Peer peer = Peer.started(post, 0);
+        tell("selected", peer, true, 45, 40, 128);
+        post.clock(3155759999999L);
+        Check.same("the clock leaps forward", post.count(4), 3);
+        post.advance(9999);
+        post.clock(0);
+        Check.same("the clock leaps back", post.count(4), 3);
+        post.advance(1);
+        Check.same("10,000 went by", post.count(4), -1);
+    }
+
+    private static void oneAtAPointOfAllLines() {
+        TelecontrolPost post = station();
+        Peer first = Peer.started(post, 0);
+        tell("begun", first, true, 45, 30, 1);
+        Peer second = Peer.started(post, 1);
+        tell("it goes on", second, false, 45, 30, 1);
+        Master master = Master.reset(post, 1, 1, 1, 1);
+        master.ask(45, 1, 6, 1, 30, 1);
+        Check.same("nor on line 3", post.count(3), 1);
+        post.close(0);
+        tell("though its line is closed", second, false, 45, 30, 1);
+        Check.same("done", post.done(0, true), 0);
+        tell("now it may", second, true, 45, 30, 1);
+        Check.same("two", post.count(3), 2);
+    }
+
+    private static void eightOfAllLines() {
+        TelecontrolPost post = new TelecontrolPost(1);
+        for (int i = 0; i < 10; i++) {
+            post.point(50 + i, 7, 0, false);
+        }
+        Master master = Master.reset(post, 1, 1, 1, 1);
+        for (int i = 0; i < 4; i++) {
+            master.ask(45, 1, 6, 1, 50 + i, 1);
+        }
+        Peer first = Peer.started(post, 0);
+        tell("the fifth", first, true, 45, 54, 1);
+        tell("the sixth", first, true, 45, 55, 1);
+        Peer second = Peer.started(post, 1);
+        tell("the seventh", second, true, 45, 56, 1);
+        tell("the eighth", second, true, 45, 57, 1);
+        tell("a ninth", second, false, 45, 58, 1);
+        master.ask(45, 1, 6, 1, 59, 1);
+        Check.same("eight", post.count(3), 8);
+        post.close(0);
+        tell("those of a closed line go on", second, false, 45, 58, 1);
+        Check.same("one of them is done", post.done(4, true), 4);
+        tell("the ninth now", second, true, 45, 58, 1);
+        Check.same("nine", post.count(3), 9);
     }
 }

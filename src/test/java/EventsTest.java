@@ -6,9 +6,12 @@ public final class EventsTest {
         answersGoFirst();
         anotherLineBecomesActive();
         oldLineConfirmsNothing();
+        oldNumbersConfirmNothing();
+        originIsNone();
         stoppedLineConfirmsStill();
         serialBecomesActive();
         serialConfirmsByNextBit();
+        serialConfirmsTheOnlyOne();
         closedLineGivesBack();
         resetGivesBack();
         Check.end();
@@ -253,5 +256,61 @@ public final class EventsTest {
         master.reset();
         counts("a reset leaves what a connection was sent", post, 1, 1, 0);
         peer.expect("it went there", event(1));
+    }
+
+    /** A line that becomes active again sends them anew: what confirms its older frames is not theirs. */
+    private static void oldNumbersConfirmNothing() {
+        TelecontrolPost post = withPoint();
+        Peer first = Peer.started(post, 0);
+        post.change(0, 1, 0, true);
+        first.expect("as number 0", event(1));
+        Peer second = Peer.started(post, 1);
+        second.expect("on the second line", event(1));
+        first.start();
+        first.expect("again, as number 1", event(1));
+        counts("sent", post, 1, 1, 0);
+        second.confirm();
+        counts("the second line is the old one now", post, 1, 1, 0);
+        first.confirm(1);
+        Check.same("number 0 is confirmed", post.look(0, 3), 1);
+        counts("the event is not", post, 1, 1, 0);
+        first.confirm(2);
+        counts("it is now", post, 0, 0, 0);
+    }
+
+    private static void originIsNone() {
+        TelecontrolPost post = withPoint();
+        Peer peer = Peer.started(post, 0);
+        peer.ask(104, 1, 6, 9, 1, 0, 0, 0, 0, 170, 85);
+        peer.expect("an answer has the origin", 104, 1, 7, 9, 1, 0, 0, 0, 0, 170, 85);
+        post.change(0, 1, 0, true);
+        peer.expect("an event has 0", event(1));
+        Master master = Master.reset(post, 1, 2, 2, 3);
+        peer.confirm();
+        post.close(0);
+        master.ask(104, 1, 6, 9, 1, 0, 0, 0, 0, 170, 85);
+        post.change(0, 2, 0, true);
+        master.askClass(1);
+        master.expectLong("an answer has the origin", 8 + 32, 104, 1, 7, 9, 1, 0, 0, 0, 0, 170, 85);
+        master.askClass(1);
+        master.expectLong("an event has 0", 8, event(2));
+    }
+
+    private static void serialConfirmsTheOnlyOne() {
+        TelecontrolPost post = withPoint();
+        Master master = Master.reset(post, 1, 1, 1, 1);
+        int[] confirming = {1, 2, 3};
+        for (int how : confirming) {
+            post.change(0, how, 0, true);
+            master.askClass(1);
+            master.expectLong("the only one", 8, shortEvent(how));
+            counts("it is sent", post, 1, 1, 0);
+            if (how == 3) {
+                master.ask(104, 1, 6, 1, 0, 170, 85);
+            } else {
+                master.askClass(how);
+            }
+            counts("confirmed by the next frame of sort " + how, post, 0, 0, 0);
+        }
     }
 }

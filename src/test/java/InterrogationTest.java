@@ -12,6 +12,9 @@ public final class InterrogationTest {
         ofAClosedLine();
         pointsThatCome();
         testsOriginsAndEachStation();
+        counterNumberGoesRound();
+        fiveIsAllAndNoGroup();
+        countersGoOn();
         Check.end();
     }
 
@@ -300,5 +303,69 @@ public final class InterrogationTest {
         peer.expect("as it came, but for the cause", 101, 1, 7 + 128, 1, 255, 255, 0, 0, 0, 5);
         peer.expect("with the station's own number", 15, 1, 37 + 128, 1, 1, 2, 11, 0, 0, 0, 0, 0, 0, 1);
         peer.expect("as it came, but for the cause", 101, 1, 10 + 128, 1, 255, 255, 0, 0, 0, 5);
+    }
+
+    /** Those of all lines count; of 33 the byte is 1 again. */
+    private static void counterNumberGoesRound() {
+        TelecontrolPost post = new TelecontrolPost(1);
+        post.point(45, 6, 4, false);
+        Master master = Master.reset(post, 1, 1, 1, 1);
+        Peer peer = Peer.started(post, 0);
+        for (int i = 1; i <= 33; i++) {
+            if (i % 2 == 0) {
+                master.ask(101, 1, 6, 1, 0, 1);
+                master.askClass(1);
+                master.expectLong("begun on line 3", 8 + 32, 101, 1, 7, 1, 0, 1);
+                master.askClass(1);
+                master.expectLong("its end", 8, 101, 1, 10, 1, 0, 1);
+            } else {
+                peer.ask(101, 1, 6, 0, 1, 0, 0, 0, 0, 1);
+                peer.expect("begun", 101, 1, 7, 0, 1, 0, 0, 0, 0, 1);
+                peer.expect("its end", 101, 1, 10, 0, 1, 0, 0, 0, 0, 1);
+            }
+            int number = i == 32 ? 0 : i == 33 ? 1 : i;
+            peer.ask(102, 1, 5, 0, 1, 0, 45, 0, 0);
+            peer.expect("begun so often: " + i, 15, 1, 5, 0, 1, 0, 45, 0, 0, 0, 0, 0, 0, number);
+        }
+        post.change(0, 0, 240, false);
+        peer.ask(102, 1, 5, 0, 1, 0, 45, 0, 0);
+        peer.expect("128 of the quality, and no other bit", 15, 1, 5, 0, 1, 0, 45, 0, 0, 0, 0, 0, 0, 129);
+    }
+
+    private static void fiveIsAllAndNoGroup() {
+        TelecontrolPost post = new TelecontrolPost(1);
+        post.point(10, 6, 0, false);
+        post.point(11, 6, 1, false);
+        post.point(12, 6, 5, false);
+        post.point(13, 6, 16, false);
+        Peer peer = Peer.started(post, 0);
+        peer.ask(101, 1, 6, 0, 1, 0, 0, 0, 0, 5);
+        peer.expect("it comes back", 101, 1, 7, 0, 1, 0, 0, 0, 0, 5);
+        peer.expect("all", 15, 4, 37, 0, 1, 0, 10, 0, 0, 0, 0, 0, 0, 1, 11, 0, 0, 0, 0, 0, 0, 1,
+                12, 0, 0, 0, 0, 0, 0, 1, 13, 0, 0, 0, 0, 0, 0, 1);
+        peer.expect("its end", 101, 1, 10, 0, 1, 0, 0, 0, 0, 5);
+        peer.ask(101, 1, 6, 0, 1, 0, 0, 0, 0, 1);
+        peer.expect("it comes back", 101, 1, 7, 0, 1, 0, 0, 0, 0, 1);
+        peer.expect("group 1", 15, 1, 38, 0, 1, 0, 11, 0, 0, 0, 0, 0, 0, 2);
+        peer.expect("its end", 101, 1, 10, 0, 1, 0, 0, 0, 0, 1);
+    }
+
+    private static void countersGoOn() {
+        TelecontrolPost post = new TelecontrolPost(1);
+        post.point(10, 6, 0, false);
+        Peer peer = Peer.started(post, 0);
+        fillWindow(post, peer);
+        peer.askConfirming(0, 101, 1, 6, 0, 1, 0, 0, 0, 0, 5);
+        peer.askConfirming(0, 100, 1, 6, 0, 1, 0, 0, 0, 0, 20);
+        peer.askConfirming(0, 101, 1, 6, 0, 1, 0, 0, 0, 0, 1);
+        peer.confirm(12);
+        peer.nextToCome = 12;
+        peer.expect("it comes back", 101, 1, 7, 0, 1, 0, 0, 0, 0, 5);
+        peer.expect("one was begun", 15, 1, 37, 0, 1, 0, 10, 0, 0, 0, 0, 0, 0, 1);
+        peer.expect("its end", 101, 1, 10, 0, 1, 0, 0, 0, 0, 5);
+        peer.expect("an interrogation while counters went on", 100, 1, 71, 0, 1, 0, 0, 0, 0, 20);
+        peer.expect("counters while counters went on", 101, 1, 71, 0, 1, 0, 0, 0, 0, 1);
+        peer.ask(100, 1, 6, 0, 1, 0, 0, 0, 0, 20);
+        peer.expect("when they have ended", 100, 1, 7, 0, 1, 0, 0, 0, 0, 20);
     }
 }

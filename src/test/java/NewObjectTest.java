@@ -2,18 +2,23 @@
 public final class NewObjectTest {
     public static void main(String[] args) {
         nothingIsThere();
-        ownNumber(1, 1);
-        ownNumber(2, 2);
-        ownNumber(300, 300);
-        ownNumber(65534, 65534);
-        ownNumber(0, 1);
-        ownNumber(-1, 1);
-        ownNumber(65535, 1);
-        ownNumber(65536, 1);
-        ownNumber(65537, 1);
-        ownNumber(Integer.MAX_VALUE, 1);
-        ownNumber(Integer.MIN_VALUE, 1);
+        ownNumbers();
+        otherNumbersAreOne();
         Check.end();
+    }
+
+    private static void ownNumbers() {
+        int[] numbers = {1, 2, 255, 256, 300, 65533, 65534};
+        for (int number : numbers) {
+            ownNumber(number, number);
+        }
+    }
+
+    private static void otherNumbersAreOne() {
+        int[] numbers = {0, -1, 65535, 65536, 65537, Integer.MAX_VALUE, Integer.MIN_VALUE};
+        for (int number : numbers) {
+            ownNumber(number, 1);
+        }
     }
 
     private static void nothingIsThere() {

@@ -8,6 +8,7 @@ public final class OpenCloseTest {
         openIsFresh();
         closeForgets();
         othersStay();
+        stoppingOnes();
         Check.end();
     }
 
@@ -117,5 +118,20 @@ public final class OpenCloseTest {
         Check.same("selected by the other line", post.count(4), 0);
         Check.same("the other line is active", post.count(5), 1);
         peer.expect("its answer waits", 45, 1, 7, 0, 1, 0, 30, 0, 0, 129);
+    }
+
+    private static void stoppingOnes() {
+        TelecontrolPost post = new TelecontrolPost(1);
+        post.point(5, 0, 0, false);
+        Peer peer = Peer.started(post, 2);
+        post.change(0, 1, 0, true);
+        peer.control(19);
+        peer.expectState("stopping", 3);
+        Check.noState("a stopping one is not closed", () -> post.open(2));
+        peer.expectState("stopping still", 3);
+        post.close(2);
+        peer.expectState("closed", 0);
+        Check.same("its event counts as not sent", post.count(1), 0);
+        Check.noState("it is closed", () -> post.close(2));
     }
 }

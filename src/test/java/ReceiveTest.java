@@ -9,6 +9,7 @@ public final class ReceiveTest {
         whereItWasClosed();
         firstBytesAndLengths();
         controls();
+        lookedAtWhenWhole();
         startAndStop();
         stoppingWaits();
         onlyOneIsStarted();
@@ -21,6 +22,7 @@ public final class ReceiveTest {
         windowOfTwelve();
         fewBytesWait();
         tooManyBytesWait();
+        anyFrameMayBeTooMany();
         Check.end();
     }
 
@@ -516,5 +518,68 @@ public final class ReceiveTest {
         peer.expectState("open", 1);
         peer.control(19);
         peer.expectState("one more frame may not", 0);
+    }
+
+    private static int[] longFrame(int control) {
+        int[] frame = new int[255];
+        frame[0] = 104;
+        frame[1] = 253;
+        frame[2] = control;
+        return frame;
+    }
+
+    private static void lookedAtWhenWhole() {
+        int[][] wrong = {{104, 4, 11, 0, 0, 0}, {104, 4, 255, 255, 255, 255}, longFrame(7), longFrame(1), longFrame(35),
+            Peer.frame(1, 0, ASK), Peer.frame(0, 1, ASK), Peer.frame(0, 0, 255), Peer.frame(0, 0, 104, 2, 6, 0, 1, 0)};
+        for (int[] frame : wrong) {
+            TelecontrolPost post = withPoint();
+            Peer peer = Peer.started(post, 0);
+            int[] before = java.util.Arrays.copyOf(frame, frame.length - 1);
+            Check.same("all bytes but the last one", peer.give(before), before.length);
+            peer.expectState("open as long as the frame is not whole", 2);
+            Check.same("the last one", peer.give(frame[frame.length - 1]), 1);
+            peer.expectState("closed", 0);
+        }
+        TelecontrolPost post = withPoint();
+        post.open(0);
+        Peer stopped = new Peer(post, 0);
+        Check.same("an I frame on a stopped line", stopped.give(java.util.Arrays.copyOf(Peer.frame(0, 0, ASK), 16)), 16);
+        stopped.expectState("not closed yet", 1);
+        stopped.give(85);
+        stopped.expectState("closed by its last byte", 0);
+    }
+
+    private static void testsFor(Peer peer, int many) {
+        for (int i = 0; i < many; i++) {
+            peer.control(67);
+        }
+        Check.same("996 bytes wait", peer.post.look(peer.line, 1), 996);
+    }
+
+    private static void anyFrameMayBeTooMany() {
+        TelecontrolPost starting = withPoint();
+        starting.open(0);
+        Peer first = new Peer(starting, 0);
+        testsFor(first, 166);
+        first.control(7);
+        first.expectState("11 is one too many", 0);
+        Check.same("no line is active", starting.count(5), -1);
+        TelecontrolPost stopping = withPoint();
+        Peer second = Peer.started(stopping, 1);
+        testsFor(second, 166);
+        second.control(19);
+        second.expectState("35 is one too many", 0);
+        TelecontrolPost confirming = withPoint();
+        Peer third = Peer.started(confirming, 2);
+        for (int i = 0; i < 43; i++) {
+            third.control(67);
+        }
+        for (int i = 0; i < 7; i++) {
+            third.askConfirming(0, ASK);
+        }
+        testsFor(third, 123);
+        Check.same("seven came", confirming.look(2, 5), 7);
+        Check.same("the eighth is taken", third.askConfirming(0, ASK), 17);
+        third.expectState("the S frame is one too many", 0);
     }
 }

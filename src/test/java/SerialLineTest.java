@@ -20,6 +20,8 @@ public final class SerialLineTest {
         interrogationSizes();
         nothingIsConfirmed();
         asdusThatAreIgnored();
+        shortHeads();
+        orderOfLooking();
         comesBack();
         commands();
         wideAddresses();
@@ -492,5 +494,35 @@ public final class SerialLineTest {
         asdu[2] = 44 + 64;
         Check.same("259 bytes wait", post.look(3, 1), 259);
         master.expectLong("the longest one", 8, asdu);
+    }
+
+    private static void shortHeads() {
+        for (int cause = 1; cause <= 2; cause++) {
+            for (int size = 1; size <= 2; size++) {
+                int head = 2 + cause + size;
+                for (int length = 1; length <= head; length++) {
+                    TelecontrolPost post = station();
+                    Master master = Master.reset(post, 5, cause, size, 1);
+                    int[] asdu = new int[length];
+                    asdu[0] = 99;
+                    master.ask(asdu);
+                    Check.same(length + " of " + head + " bytes", post.look(3, 6), length == head ? 1 : 0);
+                    master.expectShort("the frame is confirmed", length == head ? 32 : 0);
+                }
+            }
+        }
+    }
+
+    private static void orderOfLooking() {
+        comesBack(44 + 64, 99, 9, 9, 9, 9, 9, 9);
+        comesBack(45 + 64, 45, 1, 5, 9, 9, 0);
+        comesBack(46 + 64, 45, 1, 6, 9, 9, 0);
+        comesBack(47 + 64, 45, 1, 6, 1, 9, 0);
+        comesBack(47 + 64, 100, 1, 6, 1, 9, 0);
+        TelecontrolPost post = station();
+        Master master = reset(post);
+        master.ask(45, 1, 5, 9, 9);
+        master.ask(45, 2, 5, 9, 9, 0);
+        Check.same("its length and its objects before its cause", post.look(3, 6), 0);
     }
 }

@@ -1,22 +1,38 @@
 /** Promise 10: take. */
 public final class TakeTest {
     public static void main(String[] args) {
-        TelecontrolPost post = new TelecontrolPost(1);
-        int[] wrong = {-1, 4, Integer.MAX_VALUE, Integer.MIN_VALUE};
-        for (int line : wrong) {
-            Check.noArgument("line " + line, () -> post.take(line));
-        }
-        for (int line = 0; line <= 3; line++) {
-            Check.same("nothing of line " + line, post.take(line), 0);
-        }
-        upToSeven(post);
+        wrongLines();
+        nothingWaits();
+        upToSeven();
         highBytes();
         serialBytes();
         takingLetsMoreGo();
         Check.end();
     }
 
-    private static void upToSeven(TelecontrolPost post) {
+    private static void wrongLines() {
+        TelecontrolPost post = new TelecontrolPost(1);
+        int[] wrong = {-1, 4, Integer.MAX_VALUE, Integer.MIN_VALUE};
+        for (int line : wrong) {
+            Check.noArgument("line " + line, () -> post.take(line));
+        }
+    }
+
+    /** A closed line, and line 3 when it is deaf, have nothing; that is no wrong call. */
+    private static void nothingWaits() {
+        TelecontrolPost post = new TelecontrolPost(1);
+        for (int line = 0; line <= 3; line++) {
+            Check.same("nothing of line " + line, post.take(line), 0);
+        }
+        post.open(1);
+        Check.same("nothing of an open line", post.take(1), 0);
+        new Peer(post, 1).control(67);
+        post.close(1);
+        Check.same("nothing of a line that was closed", post.take(1), 0);
+    }
+
+    private static void upToSeven() {
+        TelecontrolPost post = new TelecontrolPost(1);
         post.open(0);
         Peer peer = new Peer(post, 0);
         peer.control(67);
