@@ -7,6 +7,7 @@ public final class AdvanceTest {
         unansweredTest();
         confirmingWhatCame();
         testWhenIdle();
+        whatIsSentDoesNotCount();
         severalLines();
         orderOnALine();
         timersOfStoppedLines();
@@ -78,6 +79,7 @@ public final class AdvanceTest {
         Check.same("not late", post.advance(14999), 0);
         peer.control(67);
         peer.expectControl("the peer's test is answered", 131);
+        peer.confirm();
         Check.same("other frames do not answer it", post.advance(1), 1);
         peer.expectState("closed", 0);
         post.open(1);
@@ -255,5 +257,18 @@ public final class AdvanceTest {
         Check.same("all three are late", post.advance(100000), 3);
         Check.same("line 3 has no timers", post.look(3, 0), 1);
         Check.same("none is left", post.advance(100000), 0);
+    }
+
+    /** Only bytes that come put off the test. */
+    private static void whatIsSentDoesNotCount() {
+        TelecontrolPost post = withPoint();
+        Peer peer = Peer.started(post, 0);
+        post.advance(10000);
+        post.change(0, 1, 0, true);
+        peer.takeFrame();
+        Check.same("19,999 since bytes came", post.advance(9999), 0);
+        peer.expectNothing("no test yet");
+        Check.same("20,000 since bytes came", post.advance(1), 0);
+        peer.expectControl("a test, though a frame went between", 67);
     }
 }

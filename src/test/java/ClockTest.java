@@ -206,5 +206,17 @@ public final class ClockTest {
         post.advance(5000);
         peer.expectControl("a test goes after 20,000 all the same", 67);
         Check.same("late 15,000 after the test", post.advance(15000), 1);
+        proceduresMoveNone();
+    }
+
+    private static void proceduresMoveNone() {
+        TelecontrolPost post = new TelecontrolPost(1);
+        Peer peer = Peer.started(post, 0);
+        peer.ask(askFor(timeBytes(LAST, true)));
+        peer.expect("the clock is set", answer(7, timeBytes(LAST, true)));
+        Check.same("no timer runs out by that", post.advance(0), 0);
+        peer.expectNothing("no test goes by that");
+        Check.same("14,999 since the answer went", post.advance(14999), 0);
+        Check.same("15,000 since the answer went", post.advance(1), 1);
     }
 }

@@ -128,6 +128,7 @@ public final class CommandTest {
         post.advance(9999);
         Check.same("9,999", post.count(4), 3);
         tell("it is so still", peer, false, 46, 41, 129);
+        tell("to select it again is refused, and changes nothing", peer, false, 45, 40, 128);
         peer.confirm();
         post.advance(1);
         Check.same("10,000: it ran out", post.count(4), -1);

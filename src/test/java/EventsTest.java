@@ -208,6 +208,8 @@ public final class EventsTest {
         master.shortFrame(64 + 9);
         master.expectShort("the state", 11 + 32);
         counts("a frame without FCV confirms nothing", post, 2, 1, 0);
+        master.longFrame(64 + 32 + 4, 104);
+        counts("nor does one with data and without FCV", post, 2, 1, 0);
         master.askClass(2);
         master.expectShort("class 2 confirms it", 9 + 32);
         counts("one is gone", post, 1, 0, 0);

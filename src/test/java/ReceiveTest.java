@@ -212,6 +212,22 @@ public final class ReceiveTest {
         second.start();
         third.expectState("a stopping one is not stopped by another", 3);
         Check.same("the second is active again", post.count(5), 2);
+        stoppedByAnother();
+    }
+
+    private static void stoppedByAnother() {
+        TelecontrolPost post = withPoint();
+        Peer first = Peer.started(post, 0);
+        post.change(0, 1, 0, true);
+        first.takeFrame();
+        Peer.started(post, 1);
+        Check.same("a frame is unconfirmed", post.look(0, 3), 1);
+        first.control(19);
+        first.expectControl("a stopped one is answered at once all the same", 35);
+        first.expectState("stopped", 1);
+        first.confirm(1);
+        first.expectNothing("and once");
+        first.expectState("its frame may be confirmed", 1);
     }
 
     private static void tests() {
@@ -413,51 +429,32 @@ public final class ReceiveTest {
     }
 
     private static void exactlyThatFew() {
+        TelecontrolPost post = startedBehind(43, 1);
+        Check.same("257 bytes wait, none goes", post.look(0, 2), 0);
+        post.take(0);
+        Check.same("250 waited, one goes", post.look(0, 2), 1);
+        TelecontrolPost exact = startedBehind(44, 2);
+        Check.same("256 bytes wait, none goes", exact.look(0, 2), 0);
+        Check.same("256 bytes wait", exact.look(0, 1), 256);
+        TelecontrolPost fewer = startedBehind(45, 3);
+        Check.same("255 bytes waited, one goes", fewer.look(0, 2), 1);
+        Check.same("that, and its 23 bytes", fewer.look(0, 1), 255 + 23);
+    }
+
+    /** A line with an event to send, that was started behind so many tests of 6 bytes; then so many times 7 were taken. */
+    private static TelecontrolPost startedBehind(int tests, int takes) {
         TelecontrolPost post = withPoint();
-        Peer peer = new Peer(post, 0);
         post.open(0);
         post.change(0, 1, 0, true);
-        for (int i = 0; i < 43; i++) {
+        Peer peer = new Peer(post, 0);
+        for (int i = 0; i < tests; i++) {
             peer.control(67);
         }
-        post.take(0);
         peer.control(7);
-        Check.same("257 bytes wait", post.look(0, 1), 257);
-        for (int i = 0; i < 35; i++) {
+        for (int i = 0; i < takes; i++) {
             post.take(0);
         }
-        TelecontrolPost other = withPoint();
-        Peer edge = new Peer(other, 0);
-        other.open(0);
-        other.change(0, 1, 0, true);
-        for (int i = 0; i < 45; i++) {
-            edge.control(67);
-        }
-        other.take(0);
-        other.take(0);
-        edge.control(7);
-        Check.same("262 bytes wait", other.look(0, 1), 262);
-        other.take(0);
-        Check.same("255 wait: fewer than 256", other.look(0, 2), 1);
-        TelecontrolPost third = withPoint();
-        Peer exact = new Peer(third, 0);
-        third.open(0);
-        third.change(0, 1, 0, true);
-        for (int i = 0; i < 50; i++) {
-            exact.control(67);
-        }
-        exact.control(7);
-        for (int i = 0; i < 6; i++) {
-            third.take(0);
-        }
-        Check.same("264 bytes wait", third.look(0, 1), 264);
-        exact.control(67);
-        third.take(0);
-        Check.same("263 bytes wait", third.look(0, 1), 263);
-        third.take(0);
-        Check.same("256 bytes wait, none goes", third.look(0, 2), 0);
-        third.take(0);
-        Check.same("249 bytes wait", third.look(0, 2), 1);
+        return post;
     }
 
     private static void tooManyBytesWait() {

@@ -377,10 +377,13 @@ public final class SerialLineTest {
         master.askClass(1);
         master.expectShort("a reset does not bring it back", 9);
         master.ask(TEST);
+        master.longFrame(64 + 4, 45, 1, 6, 1, 40, 129);
+        Check.same("selected", post.count(4), 4);
         master.reset();
-        Check.same("what waits outlives a reset", post.look(3, 6), 1);
+        Check.same("what waits outlives a reset", post.look(3, 6), 2);
+        Check.same("what is selected, too", post.count(4), 4);
         master.askClass(1);
-        master.expectLong("and is told", 8, TESTED);
+        master.expectLong("and is told", 8 + 32, TESTED);
     }
 
     private static void asdusThatAreIgnored() {

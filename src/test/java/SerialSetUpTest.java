@@ -108,14 +108,14 @@ public final class SerialSetUpTest {
         Check.same("selected", post.count(4), 0);
         Check.same("an answer", post.look(3, 6), 1);
         Check.same("bytes wait", post.look(3, 1), 5);
-        Check.same("half a frame comes", post.receive(3, 16 << 8 | 64, 2), 2);
+        Check.same("half a frame comes", post.receive(3, 16 << 8 | 73, 2), 2);
         post.serial(2, 2, 2, 3);
         Check.same("not reset", post.look(3, 0), 1);
         Check.same("nothing waits", post.look(3, 1), 0);
         Check.same("no answers", post.look(3, 6), 0);
         Check.same("nothing selected by it", post.count(4), -1);
         Check.same("not active", post.count(5), -1);
-        Check.same("the half frame's end", Peer.give(post, 3, 1, 65, 22), 3);
+        Check.same("the half frame's end", Peer.give(post, 3, 2, 75, 22), 3);
         Check.same("the half frame is gone", post.look(3, 1), 0);
         Master old = new Master(post, 1);
         old.shortFrame(64);
