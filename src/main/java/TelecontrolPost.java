@@ -1085,7 +1085,7 @@ public final class TelecontrolPost {
 
         /** Answers begin with little room, for few of them are ever long. */
         void copyFrom(ByteRow other, int from, int to) {
-            int size = Math.min(to, other.length) - from;
+            int size = (to < other.length ? to : other.length) - from;
             if (size > bytes.length) {
                 bytes = new int[LONGEST_FRAME];
             }
